@@ -38,7 +38,9 @@ public final class ModelTest {
         Model model = new Model();
         Driver driver = new Driver(seed, model);
         List<String> told = new ArrayList<>();
-        for (int n = 0; n < CALLS; n++) {
+        // Nothing is promised of later calls, but they must not throw; the model still tells what is sensible there.
+        int calls = seed % 12 == 0 ? 5 * CALLS : CALLS;
+        for (int n = 0; n < calls; n++) {
             driver.choose();
             int want = driver.onModel();
             int got = driver.onVault(vault);

@@ -16,6 +16,7 @@ public final class PromiseTest {
         shelvesUpTo100();
         steps();
         stepsUpTo80();
+        rootsUpTo80();
         bases();
         heads();
         diffs();
@@ -27,6 +28,7 @@ public final class PromiseTest {
         joinBases();
         joinRefusals();
         joinMakesTexts();
+        joinMakesFullTexts();
         joinedRefusals();
         blames();
         renames();
@@ -34,6 +36,7 @@ public final class PromiseTest {
         packing();
         packDepth();
         packTies();
+        packUpTo120();
         sweeping();
         counts();
         System.out.println(wrong == 0 ? "the promises hold" : wrong + " answers are not as due");
@@ -444,6 +447,23 @@ public final class PromiseTest {
         v.mark(78, 1);
         promise = 37;
         due("found", v.found(), 79);
+    }
+
+    private static void rootsUpTo80() {
+        VersionVault v = new VersionVault();
+        v.shelf();
+        for (int s = 0; s < 80; s++) {
+            v.step(0, -1, -1);
+        }
+        for (int s = 0; s < 80; s++) {
+            promise = 17;
+            due("a root's ancestors", v.of(s, 3), 1);
+            promise = 18;
+            due("a root does not reach the next", v.reaches(s, (s + 1) % 80), 0);
+            due("nor one 64 off", v.reaches(s, (s + 64) % 80), 0);
+        }
+        promise = 19;
+        due("no base of two roots", v.base(64, 0, 0), -1);
     }
 
     private static void bases() {
@@ -869,6 +889,40 @@ public final class PromiseTest {
         due("another one is one too many", v.join(s, t), -2);
     }
 
+    private static void joinMakesFullTexts() {
+        promise = 27;
+        VersionVault v = new VersionVault();
+        int[] lines = upTo(24);
+        int o = text(v, lines);
+        lines[0] = 50;
+        int a = text(v, lines);
+        lines[0] = 1;
+        lines[23] = 60;
+        int b = text(v, lines);
+        int root = v.step(shelf(v, 0, o, 1, o), -1, -1);
+        int s = v.step(shelf(v, 0, a, 1, a), root, -1);
+        int t = v.step(shelf(v, 0, b, 1, b), root, -1);
+        due("join", v.join(s, t), 0);
+        due("the same text for both", v.becomes(1), v.becomes(0));
+        lines[0] = 50;
+        lines(v, "a full merge", v.becomes(1), lines);
+        v.add(70);
+        for (int i = 0; i < 23; i++) {
+            v.add(i + 1);
+        }
+        int longer = v.text();
+        int u = v.step(shelf(v, 0, longer), -1, -1);
+        int w = v.step(shelf(v, 0, b), -1, -1);
+        due("two full ones over none", v.join(u, w), 1);
+        int p = v.step(shelf(v, 0, text(v, 1)), -1, -1);
+        int q = v.step(shelf(v, 0, text(v, 80, 81, 1)), p, -1);
+        int[] behind = upTo(24);
+        int r = v.step(shelf(v, 0, text(v, behind)), p, -1);
+        due("26 lines are a clash", v.join(q, r), 1);
+        due("becomes", v.becomes(0), -3);
+        due("no text was made of it", v.count(0), 7);
+    }
+
     private static void joinedRefusals() {
         promise = 31;
         VersionVault v = new VersionVault();
@@ -1166,6 +1220,25 @@ public final class PromiseTest {
         due("3 are not fewer than 3", u.pack(), 0);
     }
 
+    private static void packUpTo120() {
+        promise = 38;
+        VersionVault v = new VersionVault();
+        for (int t = 0; t < 120; t++) {
+            v.wipe();
+            for (int i = 0; i < 24; i++) {
+                v.add(i == t % 24 ? 100 + t : i);
+            }
+            due("text", v.text(), t);
+        }
+        due("all but the first", v.pack(), 119);
+        due("the last", v.stem(119), 23);
+        due("another one", v.stem(23), 0);
+        due("by its own place", v.stem(100), 4);
+        promise = 40;
+        // Places 1 to 23 differ from text 0 in two lines each; later ones from their like in one alone.
+        due("units", v.units(), 25 + 23 * 6 + 96 * 4);
+    }
+
     private static void sweeping() {
         promise = 41;
         VersionVault v = new VersionVault();
@@ -1204,6 +1277,8 @@ public final class PromiseTest {
         due("count(3)", v.count(3), 3);
         due("count(4)", v.count(4), 2);
         due("count(7)", v.count(7), 0);
+        shelf(v, 8, 0);
+        due("count(4) and one more", v.count(4), 3);
         v.lose(0);
         due("count(7)", v.count(7), 1);
         promise = 41;
