@@ -168,6 +168,12 @@ public final class PromiseTest {
         due("line(2, -1)", v.line(2, -1), 0);
         due("line(4, 0)", v.line(4, 0), 0);
         due("line(-1, 0)", v.line(-1, 0), 0);
+        VersionVault w = new VersionVault();
+        text(w, upTo(24));
+        text(w, 9);
+        due("the last line of a full one", w.line(0, 23), 24);
+        due("none behind it", w.line(0, 24), 0);
+        due("none below the next one", w.line(1, -1), 0);
         promise = 5;
         v.lose(1);
         due("1 2 found again", text(v, 1, 2), 1);
